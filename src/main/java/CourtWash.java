@@ -994,7 +994,7 @@ public final class CourtWash {
                 int under = isHung(p) && wet[p] > DRIPS_ABOVE ? court.below[where[p]] : -1;
                 if (under >= 0) {
                     dripsOn[under]++;
-                    redOn[under] |= court.kinds[p] == RED;
+                    redOn[under] = redOn[under] || court.kinds[p] == RED;
                 }
             }
         }
@@ -1003,7 +1003,7 @@ public final class CourtWash {
             for (int p = 0; p < court.pieceCount; p++) {
                 if (isHung(p)) {
                     wet[p] = Math.min(MOST_WET, wet[p] + DRIP * dripsOn[where[p]]);
-                    stained[p] |= redOn[where[p]] && court.takesStains(p);
+                    stained[p] = stained[p] || redOn[where[p]] && court.takesStains(p);
                 }
             }
         }
@@ -1316,13 +1316,11 @@ public final class CourtWash {
             super(number, wet, yards, trace);
         }
 
-        @Override
         int size() {
             trace.begin(11);
             return super.size() + mark();
         }
 
-        @Override
         int mark() {
             trace.begin(21);
             return super.mark() + yards;
@@ -1334,13 +1332,11 @@ public final class CourtWash {
             super(number, wet, yards, trace);
         }
 
-        @Override
         int size() {
             trace.begin(12);
             return -super.size();
         }
 
-        @Override
         int mark() {
             trace.begin(24);
             return super.mark() + 1000;
@@ -1352,7 +1348,6 @@ public final class CourtWash {
             super(number, wet, yards, trace);
         }
 
-        @Override
         int size() {
             trace.begin(13);
             return super.size() - yards;
@@ -1364,7 +1359,6 @@ public final class CourtWash {
             super(number, wet, yards, trace);
         }
 
-        @Override
         int mark() {
             trace.begin(22);
             return super.mark() - size();
@@ -1376,13 +1370,11 @@ public final class CourtWash {
             super(number, wet, yards, trace);
         }
 
-        @Override
         int size() {
             trace.begin(14);
             return 2 * super.size();
         }
 
-        @Override
         int mark() {
             trace.begin(23);
             return super.mark() + 10 * size();
