@@ -14,7 +14,7 @@ public final class CourtWash {
     private static final int QUARTERS = 24;
     private static final int MOST_QUARTERS = 96;
     private static final int MOST_PLANNED = 4;
-    private static final int LATEST_PLAN = 48;
+    private static final int NO_PLAN = 48 + 1;
     private static final int MOST_PEOPLE = 6;
     private static final int FALLEN_YARDS = 3;
     private static final int MILLION = 1000000;
@@ -31,6 +31,8 @@ public final class CourtWash {
     private final Trace trace = new Trace();
     private final int[] triedLines = new int[MOST_PLANNED];
     private final int[] bestLines = new int[MOST_PLANNED];
+    private final int[] timesAlone = new int[MOST_PLANNED * Court.MOST_LINES];
+    private int leastTime;
     private int bestTime;
     private int latestFault;
     private int latestFinding;
@@ -249,7 +251,7 @@ public final class CourtWash {
             return BAD;
         }
         findPlan(n);
-        if (bestTime > LATEST_PLAN) {
+        if (bestTime == NO_PLAN) {
             return NONE;
         }
         return k < 0 ? bestTime : bestLines[k];
@@ -450,55 +452,71 @@ public final class CourtWash {
 
     // ---- plans
 
-    /** Leaves the soonest time in bestTime (later than LATEST_PLAN: there is none), its LINES in bestLines. */
+    /**
+     * Leaves the soonest time in bestTime (NO_PLAN: there is none), its LINES in bestLines. Another
+     * PIECE can only drip more, so what some need by themselves is never more than what all need.
+     */
     private void findPlan(int n) {
-        bestTime = LATEST_PLAN + 1;
-        if ((wash.hungBits() & ((1 << n) - 1)) != 0) {
-            return;
-        }
         draft.become(wash);
+        bestTime = NO_PLAN;
+        leastTime = 0;
+        for (int p = 0; p < n; p++) {
+            leastTime = Math.max(leastTime, leastTimeAlone(p));
+        }
         planPiece(0, n);
     }
 
-    /**
-     * Tries all LINES for PIECE p and those behind it. Another PIECE can only drip more, so what the
-     * first ones need by themselves is never more than what all need: a beginning that is not
-     * better than the best is left at once.
-     */
+    /** When a PIECE is DRY without the others that are to be planned, on the best LINE for it. */
+    private int leastTimeAlone(int p) {
+        int least = NO_PLAN;
+        for (int line = 0; line < draft.court.lineCount; line++) {
+            int time = NO_PLAN;
+            if (draft.refusal(p, line) == 0) {
+                draft.putUp(p, line);
+                time = timeUntilDry(p, p, NO_PLAN);
+                draft.takeDown(p);
+            }
+            timesAlone[p * Court.MOST_LINES + line] = time;
+            least = Math.min(least, time);
+        }
+        return least;
+    }
+
+    /** Tries all LINES for PIECE p and those behind it, but leaves at once what cannot be better than the best. */
     private void planPiece(int p, int n) {
         if (p >= n || p >= MOST_PLANNED) {
             return;
         }
-        for (int line = 0; line < draft.court.lineCount; line++) {
-            if (draft.refusal(p, line) != 0) {
+        for (int line = 0; line < draft.court.lineCount && bestTime > leastTime; line++) {
+            if (timesAlone[p * Court.MOST_LINES + line] >= bestTime || draft.refusal(p, line) != 0) {
                 continue;
             }
             draft.putUp(p, line);
             triedLines[p] = line;
-            int time = timeBelowBest(p + 1);
-            if (time >= 0 && p + 1 == n) {
+            int time = timeUntilDry(0, p, bestTime);
+            if (time < bestTime && p == n - 1) {
                 bestTime = time;
                 System.arraycopy(triedLines, 0, bestLines, 0, n);
-            } else if (time >= 0) {
+            } else if (time < bestTime) {
                 planPiece(p + 1, n);
             }
             draft.takeDown(p);
         }
     }
 
-    /** When the first n PIECES of the draft are DRY without a new stain, if that is below bestTime; else -1. */
-    private int timeBelowBest(int n) {
+    /** When PIECES of the draft, the first to the last told, are DRY without a new stain; limit, if not sooner. */
+    private int timeUntilDry(int first, int last, int limit) {
         trial.become(draft);
-        for (int time = 0; time < bestTime; time++) {
-            if (trial.firstAreDry(n)) {
+        for (int time = 0; time < limit; time++) {
+            if (trial.areDry(first, last)) {
                 return time;
             }
             trial.passQuarter();
-            if (trial.firstAreStainedSince(draft, n)) {
-                return -1;
+            if (trial.areStainedSince(draft, first, last)) {
+                return limit;
             }
         }
-        return -1;
+        return limit;
     }
 
     // ---- rings
@@ -882,7 +900,7 @@ public final class CourtWash {
         }
 
         int quarterNow() {
-            return gone % QUARTERS;
+            return Math.floorMod(gone, QUARTERS);
         }
 
         boolean isHung(int piece) {
@@ -1017,8 +1035,8 @@ public final class CourtWash {
             return true;
         }
 
-        boolean firstAreDry(int n) {
-            for (int p = 0; p < n; p++) {
+        boolean areDry(int first, int last) {
+            for (int p = first; p <= last; p++) {
                 if (wet[p] > 0) {
                     return false;
                 }
@@ -1026,8 +1044,8 @@ public final class CourtWash {
             return true;
         }
 
-        boolean firstAreStainedSince(Wash earlier, int n) {
-            for (int p = 0; p < n; p++) {
+        boolean areStainedSince(Wash earlier, int first, int last) {
+            for (int p = first; p <= last; p++) {
                 if (stained[p] && !earlier.stained[p]) {
                     return true;
                 }

@@ -11,7 +11,7 @@ import java.util.regex.Pattern;
 public final class LanguageTest {
     private static final Path PROGRAM = Path.of("src/main/java/CourtWash.java");
     private static final Set<String> LIBRARY = Set.of("Arrays.fill", "Arrays.copyOf", "Arrays.copyOfRange",
-            "System.arraycopy", "Math.max", "Math.min", "Integer.bitCount");
+            "System.arraycopy", "Math.max", "Math.min", "Math.floorMod", "Integer.bitCount");
     private static final Check CHECK = new Check("LanguageTest");
 
     public static void main(String[] args) throws IOException {

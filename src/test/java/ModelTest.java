@@ -44,6 +44,8 @@ public final class ModelTest {
                 layByChance();
             } else if (what < 8) {
                 ringsByChance();
+            } else if (what < 10) {
+                planByChance();
             } else if (what < 25) {
                 both("hang", random.nextInt(11), random.nextInt(9));
             } else {
@@ -71,6 +73,17 @@ public final class ModelTest {
             a[i] = chance(3) ? random.nextInt() : chance(70) ? random.nextInt(6) : random.nextInt(44) - 2;
         }
         both(name, a);
+    }
+
+    private void planByChance() {
+        int n = chance(25) ? 4 : 1 + random.nextInt(3);
+        for (int p = 0; p < n; p++) {
+            if (chance(95)) {
+                both("take", p);
+            }
+        }
+        both("plan", n, -1);
+        both("plan", n, random.nextInt(n));
     }
 
     private void layByChance() {
@@ -136,7 +149,7 @@ public final class ModelTest {
             text.append("right ").append(random.nextInt(2)).append(" ").append(from).append(" ")
                     .append(from + random.nextInt(24 - from)).append(" ").append(random.nextInt(6)).append(";");
         }
-        int pieces = random.nextInt(chance(5) ? 12 : 9);
+        int pieces = chance(25) ? 10 : random.nextInt(chance(5) ? 12 : 9);
         int wet = 1 + random.nextInt(100);
         int wide = chance(50) ? 9 : 3;
         for (int p = 0; p < pieces; p++) {
