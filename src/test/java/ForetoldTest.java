@@ -1,303 +1,304 @@
-/** Promises 15 to 22: dry, plan, whose, sun, rings, rain, image, restore. */
+/** WHOSE, SUN and RAIN in Terms 3, and promises 17, 18, 20 to 22: whose, sun, rain, image, restore. */
 public final class ForetoldTest {
-    private static final int NULL = -1000011, PLACE = -1000012;
+    private static final int BAD = CourtWash.BAD, STATE = CourtWash.STATE, NONE = CourtWash.NONE;
+    private static final int LEAST = Integer.MIN_VALUE, MOST = Integer.MAX_VALUE;
     private static final Check CHECK = new Check("ForetoldTest");
 
     public static void main(String[] args) {
-        allDryIsForetold();
-        plansAreSoonest();
-        plansKeepStainsOff();
-        plansAreHangings();
-        plansAreRefused();
-        whoseIsTold();
-        sunIsCounted();
-        ringsChange();
-        ringsAreRefused();
-        rainIsForetold();
-        imagesAreKept();
+        CHECK.words("WHOSE: PIECES (bits) that can have fallen to a floor in a COLUMN: that HANG on a LINE of that COLUMN above it,",
+                ForetoldTest::whatHangsAboveCanFall);
+        CHECK.words("and are no more than 3 YARDS.", ForetoldTest::upToThreeYardsCanFall);
+        CHECK.words("WHOSE. BAD: floor 0 to 9, COLUMN; STATE: no COURT (ahead of BAD).", ForetoldTest::whoseIsRefused);
+        CHECK.words("SUN of a LINE: QUARTERS of the day in which it has sun;", ForetoldTest::sunIsCounted);
+        CHECK.words("with a ROOF of h (0 to 9) over the way: the least floor that has sun is h more.", ForetoldTest::roofsTakeSun);
+        CHECK.words("SUN of a LINE with a ROOF of h. BAD.", ForetoldTest::sunIsRefused);
+        CHECK.words("RAIN: with p of 100 it begins in a QUARTER, each by itself;", ForetoldTest::rainComesWithP);
+        CHECK.words("in each, ahead of that, one PIECE that HANGS is taken in,", ForetoldTest::oneIsTakenAheadOfRain);
+        CHECK.words("those of most YARDS first, of like ones the least number first.", ForetoldTest::theWidestAreTakenFirst);
+        CHECK.words("D of 0 is 1000000, that of k is D of (k less 1), times (100 less p), by 100;", ForetoldTest::staysDryByD);
+        CHECK.words("how many YARDS get wet on the mean, in millionths: YARDS times (1000000 less D), added.", ForetoldTest::yardsAreAdded);
+        CHECK.words("RAIN: YARDS in millionths (what = 0), the PIECE that is taken next (1; NONE).", ForetoldTest::rainTellsTwoThings);
+        CHECK.words("BAD; STATE: no COURT (ahead of BAD).", ForetoldTest::rainIsRefused);
+        CHECK.words("An IMAGE (0, 1) is kept of the COURT: 1.", ForetoldTest::imagesAreKept);
+        CHECK.words("BAD; STATE: no COURT.", ForetoldTest::keepingIsRefused);
+        CHECK.words("The COURT is as an IMAGE kept it: 1.", ForetoldTest::courtsAreRestored);
+        CHECK.words("BAD; STATE: none was kept.", ForetoldTest::restoringIsRefused);
         CHECK.end();
     }
 
-    private static void allDryIsForetold() {
-        CourtWash x = new CourtWash();
-        CHECK.due("no court", x.dry(), CourtWash.STATE);
-        Texts.read(x, Texts.day("91") + "line 9 0 9;line 1 0 9;line 0 0 9;"
-                + "piece black 0 96 1;piece black 0 97 1;piece black 0 33 1;piece black 0 1 1;piece black 0 3 1;");
-        CHECK.due("nothing hangs", x.dry(), 0);
-        x.hang(0, 2);
-        CHECK.due("96 quarters", x.dry(), 96);
+    private static void whatHangsAboveCanFall() {
+        CourtWash x = Texts.courtOf(Texts.STILL + "line 5 3 9;line 6 3 9;line 9 2 9;line 0 0 9;"
+                + "piece red 0 0 1;piece wool 0 0 1;piece sheet 0 0 1;piece sock 0 0 1;piece black 0 0 1;");
+        Texts.hang(x, 0, 1, 2, -1, 3);
+        for (int floor = 0; floor < 10; floor++) {
+            CHECK.due("column 3, floor " + floor, x.whose(floor, 3), (floor < 5 ? 1 : 0) + (floor < 6 ? 2 : 0));
+            CHECK.due("column 2, floor " + floor, x.whose(floor, 2), floor < 9 ? 4 : 0);
+            CHECK.due("column 1, floor " + floor, x.whose(floor, 1), 0);
+            CHECK.due("column 0, floor " + floor, x.whose(floor, 0), 0);
+        }
         x.take(0);
-        x.hang(1, 2);
-        CHECK.due("97 quarters", x.dry(), CourtWash.NONE);
-        CHECK.due("nothing changes", x.piece(1, 0) * 1000 + x.count(6), 97000);
-        x.quarters(1);
-        CHECK.due("one less", x.dry(), 96);
-        x.take(1);
-        x.hang(2, 1);
-        x.hang(3, 2);
-        CHECK.due("33, dripped on twice", x.dry(), 33);
-        x.take(2);
-        CHECK.due("1 alone", x.dry(), 1);
-        x.quarters(1);
-        CHECK.due("dry", x.dry(), 0);
-        x.hang(2, 1);
-        x.quarters(1);
-        CHECK.due("wet again", x.piece(3, 0), 3);
-        CHECK.due("dry together", x.dry(), 32);
+        CHECK.due("what is down has not fallen", x.whose(0, 3), 2);
     }
 
-    private static void plan(String what, CourtWash x, int n, int time, int... lines) {
-        CHECK.due(what, x.plan(n, -1), time);
-        for (int k = 0; k < n; k++) {
-            CHECK.due(what + ", piece " + k, x.plan(n, k), time == CourtWash.NONE ? CourtWash.NONE : lines[k]);
+    private static void upToThreeYardsCanFall() {
+        for (int yards = 1; yards <= 9; yards++) {
+            CourtWash x = Texts.courtOf(Texts.STILL + "line 1 0 9;piece red 0 0 " + yards + ";");
+            x.hang(0, 0);
+            CHECK.due(yards + " yards", x.whose(0, 0), yards <= 3 ? 1 : 0);
         }
     }
 
-    private static void plansAreSoonest() {
-        String lines = "line 0 0 9;line 5 0 9;line 9 0 9;line 5 1 2;";
-        CourtWash x = Texts.courtOf(Texts.day("51") + lines + "piece wool 0 9 1;piece black 0 12 1;piece sheet 0 3 2;piece sock 0 1 2;");
-        plan("a sunny floor", x, 1, 9, 1);
-        plan("two", x, 2, 9, 1, 1);
-        plan("a sheet", x, 3, 9, 1, 1, 0);
-        plan("a sock in the shade", x, 4, 9, 1, 1, 0, 1);
-        x.hang(3, 1);
-        plan("beside what hangs", x, 3, 9, 1, 1, 0);
-        CHECK.due("nothing changes", x.count(4), 1);
-        x.quarters(9);
-        plan("down they stay wet", x, 3, 9, 1, 1, 0);
-        CourtWash dry = Texts.courtOf(Texts.STILL + lines + "piece sheet 0 0 3;piece sheet 0 0 2;piece red 0 1 1;");
-        plan("dry ones", dry, 2, 0, 0, 1);
-        plan("1 wet dries on floor 9", dry, 3, 1, 0, 1, 2);
-        CourtWash late = Texts.courtOf(Texts.day("91") + "line 0 0 9;piece red 0 48 1;piece red 0 49 1;");
-        plan("48 quarters", late, 1, 48, 0);
-        plan("49 quarters", late, 2, CourtWash.NONE);
-        CourtWash hung = Texts.courtOf(Texts.day("9") + "line 5 0 9;line 1 0 9;piece sock 0 9 1;piece red 0 9 1;piece black 0 90 1;");
-        hung.hang(2, 0);
-        plan("away from what drips", hung, 1, 1, 0);
-        Texts.read(hung, Texts.day("2") + "line 5 0 1;line 1 0 9;line 1 1 9;piece sock 0 9 1;piece red 0 9 1;piece black 0 90 1;");
-        hung.hang(2, 0);
-        plan("the other column", hung, 1, 5, 2);
-    }
-
-    private static void plansKeepStainsOff() {
-        String court = Texts.day("9") + "line 5 0 1;line 1 0 9;";
-        CourtWash x = Texts.courtOf(court + "piece wool 0 90 1;piece red 0 90 1;piece red 0 0 1;");
-        plan("red below", x, 2, 10, 0, 1);
-        x = Texts.courtOf(court + "piece red 0 90 1;piece wool 0 90 1;piece black 0 0 1;");
-        plan("red below, though it comes first", x, 2, 10, 1, 0);
-        x = Texts.courtOf(Texts.day("9") + "line 5 0 1;line 1 0 1;piece red 0 90 1;piece black 0 90 1;");
-        plan("black may hang below red", x, 2, 10, 0, 1);
-        x = Texts.courtOf(Texts.day("9") + "line 5 0 1;line 1 0 1;piece wool 0 20 1;piece red 0 90 1;");
-        x.hang(1, 0);
-        plan("only below a red one", x, 1, CourtWash.NONE);
-        x.take(1);
-        x.hang(0, 1);
-        x.hang(1, 0);
-        x.quarters(1);
-        CHECK.due("it is stained", x.piece(0, 2), 1);
-        x.take(0);
-        CHECK.due("what was stained is not newly stained", x.plan(1, 0), 1);
-        x = Texts.courtOf(Texts.day("9") + "line 5 0 1;line 1 0 1;piece red 0 90 1;piece wool 0 90 1;");
-        x.hang(1, 1);
-        plan("another one may be stained", x, 1, 9, 0);
-    }
-
-    private static void plansAreHangings() {
-        CourtWash x = Texts.courtOf(Texts.day("9") + "line 0 0 2;line 0 1 2;line 0 2 1;right 0 0 0 1;right 1 1 1 0;"
-                + "piece red 0 1 2;piece red 1 1 2;piece red 2 1 1;piece red 0 1 1;");
-        plan("rights now", x, 2, 1, 1, 0);
-        plan("room", x, 3, 1, 1, 0, 2);
-        plan("no room", x, 4, CourtWash.NONE);
-        x.quarters(1);
-        plan("rights then", x, 2, 1, 1, 0);
-        plan("one", x, 1, 1, 0);
-        x.quarters(1);
-        plan("no rights", x, 2, 1, 0, 1);
-        x.hang(3, 2);
-        plan("what hangs takes room", x, 3, CourtWash.NONE);
-        plan("it hangs", x, 4, CourtWash.NONE);
-        x.hang(0, 0);
-        plan("one of these hangs", x, 1, CourtWash.NONE);
-    }
-
-    private static void plansAreRefused() {
+    private static void whoseIsRefused() {
         CourtWash x = new CourtWash();
-        CHECK.due("no court ahead of BAD", x.plan(0, 7), CourtWash.STATE);
-        Texts.read(x, Texts.day("9") + "line 0 0 9;piece red 0 1 1;piece red 0 1 1;");
-        int[][] wrong = {{0, -1}, {-1, -1}, {5, -1}, {3, -1}, {2, 2}, {1, 1}, {2, -2}, {Integer.MAX_VALUE, 0}, {2, Integer.MIN_VALUE}};
+        int[][] wrong = {{-1, 0}, {10, 0}, {0, -1}, {0, 4}, {LEAST, 0}, {MOST, 0}, {0, LEAST}, {0, MOST}};
+        CHECK.due("no court", x.whose(0, 0), STATE);
         for (int[] w : wrong) {
-            CHECK.due("plan " + w[0] + " " + w[1], x.plan(w[0], w[1]), CourtWash.BAD);
+            CHECK.due("no court, whose " + w[0] + " " + w[1], x.whose(w[0], w[1]), STATE);
         }
-        x.hang(0, 0);
-        CHECK.due("BAD ahead of NONE", x.plan(2, 2), CourtWash.BAD);
-        Texts.read(x, Texts.day("9") + "line 0 0 9;" + "piece red 0 1 1;".repeat(5));
-        CHECK.due("five", x.plan(5, -1), CourtWash.BAD);
-        CHECK.due("four", x.plan(4, -1), 1);
+        Texts.read(x, Texts.STILL + "line 1 0 9;");
+        for (int[] w : wrong) {
+            CHECK.due("whose " + w[0] + " " + w[1], x.whose(w[0], w[1]), BAD);
+        }
+        CHECK.due("the last", x.whose(9, 3), 0);
+        CHECK.due("the first", x.whose(0, 0), 0);
     }
 
-    private static void whoseIsTold() {
-        CourtWash x = new CourtWash();
-        CHECK.due("no court ahead of BAD", x.whose(10, 0), CourtWash.STATE);
-        Texts.read(x, Texts.STILL + "line 5 3 9;line 6 3 9;line 9 2 9;"
-                + "piece red 0 0 3;piece wool 0 0 4;piece sheet 0 0 3;piece sock 0 0 1;piece black 0 0 1;");
-        x.hang(0, 0);
-        x.hang(1, 0);
-        x.hang(2, 1);
-        x.hang(3, 2);
-        CHECK.due("below all", x.whose(0, 3), 5);
-        CHECK.due("below the lower", x.whose(4, 3), 5);
-        CHECK.due("on the lower", x.whose(5, 3), 4);
-        CHECK.due("on the upper", x.whose(6, 3), 0);
-        CHECK.due("another column", x.whose(8, 2), 8);
-        CHECK.due("the top", x.whose(9, 2), 0);
-        CHECK.due("no line", x.whose(0, 0), 0);
-        int[][] wrong = {{-1, 0}, {10, 0}, {0, -1}, {0, 4}};
-        for (int[] w : wrong) {
-            CHECK.due("whose " + w[0] + " " + w[1], x.whose(w[0], w[1]), CourtWash.BAD);
-        }
+    private static CourtWash courtWithSun() {
+        return Texts.courtOf("day 9 10 20 30 40 50 60 70 80 99" + " 90".repeat(13) + " 40;line 0 0 9;line 5 0 9;line 9 0 9;");
     }
 
     private static void sunIsCounted() {
-        CourtWash x = new CourtWash();
-        CHECK.due("no court", x.sun(0, 0), CourtWash.BAD);
-        Texts.read(x, "day 9 10 20 30 40 50 60 70 80 99" + " 90".repeat(14) + ";line 0 0 9;line 5 0 9;line 9 0 9;");
-        int[] suns = {1, 6, 24};
+        CourtWash x = courtWithSun();
+        int[] suns = {1, 7, 24};
         for (int l = 0; l < 3; l++) {
             CHECK.due("sun of " + l, x.sun(l, 0), suns[l]);
         }
-        for (int h = 1; h <= 9; h++) {
-            CHECK.due("floor 0, roof " + h, x.sun(0, h), 0);
-            CHECK.due("floor 5, roof " + h, x.sun(1, h), Math.max(0, 6 - h));
-            CHECK.due("floor 9, roof " + h, x.sun(2, h), 10 - h);
-        }
         x.quarters(5);
-        CHECK.due("of the day, not of now", x.sun(1, 0), 6);
-        int[][] wrong = {{3, 0}, {-1, 0}, {0, -1}, {0, 10}};
-        for (int[] w : wrong) {
-            CHECK.due("sun " + w[0] + " " + w[1], x.sun(w[0], w[1]), CourtWash.BAD);
+        CHECK.due("of the day, not from now on", x.sun(1, 0), 7);
+        for (int q = 0; q < 24; q++) {
+            CourtWash one = Texts.courtOf(Texts.dayBut(q, "80", "90") + "line 8 0 9;");
+            CHECK.due("sun in " + q + " alone", one.sun(0, 0), 1);
         }
     }
 
-    private static void rings(String what, CourtWash x, int n, int... lines) {
-        for (int k = 0; k < n; k++) {
-            CHECK.due(what + ", person " + k, x.rings(0, n, k), lines[k]);
+    private static void roofsTakeSun() {
+        CourtWash x = courtWithSun();
+        for (int h = 0; h <= 9; h++) {
+            CHECK.due("floor 0, roof " + h, x.sun(0, h), h == 0 ? 1 : 0);
+            CHECK.due("floor 5, roof " + h, x.sun(1, h), Math.max(0, 6 - h) + (h <= 1 ? 1 : 0));
+            CHECK.due("floor 9, roof " + h, x.sun(2, h), h == 0 ? 24 : 10 - h + (h <= 5 ? 1 : 0));
         }
     }
 
-    private static void ringsChange() {
-        CourtWash x = Texts.courtOf("day" + " 80".repeat(4) + " 50".repeat(4) + " 20".repeat(4) + " 90".repeat(12)
-                + ";line 1 0 9;line 4 0 9;line 7 0 9;line 8 0 9;line 2 1 9;line 0 2 1;");
-        Texts.rowOf(x, 0, 0, 3);
-        rings("the sunny one is wanted by both", x, 2, 0, 3);
-        Texts.rowOf(x, 0, 2, 3);
-        rings("of like ones the lesser", x, 2, 3, 2);
-        Texts.rowOf(x, 0, 1, 2, 3);
-        rings("a ring of two, one left", x, 3, 3, 2, 1);
-        Texts.rowOf(x, 0, 4, 1, 2);
-        rings("who stays alone", x, 3, 4, 2, 1);
-        Texts.rowOf(x, 0, 1, 0, 2);
-        rings("a ring of three", x, 3, 0, 2, 1);
-        Texts.rowOf(x, 0, 5, 4, 3, 2, 1, 0);
-        rings("six", x, 6, 5, 4, 3, 2, 1, 0);
-        x.quarters(5);
-        rings("not by now", x, 6, 5, 4, 3, 2, 1, 0);
-    }
-
-    private static void ringsAreRefused() {
+    private static void sunIsRefused() {
         CourtWash x = new CourtWash();
-        CHECK.due("no court ahead of BAD", x.rings(9, 9, 9), CourtWash.STATE);
-        Texts.read(x, Texts.STILL + "line 1 0 9;line 4 0 9;line 7 0 9;");
-        int[][] wrong = {{8, 2, 0}, {-1, 2, 0}, {0, 1, 0}, {0, 7, 0}, {0, 2, 2}, {0, 2, -1}};
+        CHECK.due("no court", x.sun(0, 0), BAD);
+        Texts.read(x, Texts.day("0") + "line 1 0 9;line 2 0 9;");
+        int[][] wrong = {{2, 0}, {-1, 0}, {0, -1}, {0, 10}, {LEAST, 0}, {MOST, 0}, {0, LEAST}, {0, MOST}};
         for (int[] w : wrong) {
-            CHECK.due("rings " + w[0] + " " + w[1] + " " + w[2], x.rings(w[0], w[1], w[2]), CourtWash.BAD);
+            CHECK.due("sun " + w[0] + " " + w[1], x.sun(w[0], w[1]), BAD);
         }
-        CHECK.due("no row", x.rings(0, 2, 0), NULL);
-        CHECK.due("status of null", x.status(), 1);
-        Texts.rowOf(x, 0, 0, 1, 3, 1);
-        CHECK.due("too short", x.rings(0, 5, 0), PLACE);
-        CHECK.due("status of place", x.status(), 2);
-        CHECK.due("no such line", x.rings(0, 3, 0), CourtWash.BAD);
-        CHECK.due("BAD leaves status", x.status(), 2);
-        CHECK.due("unlike ones", x.rings(0, 2, 0), 0);
-        CHECK.due("status of none", x.status(), 0);
-        x.set(0, 2, -1);
-        CHECK.due("no line", x.rings(0, 3, 0), CourtWash.BAD);
-        x.set(0, 2, 2);
-        CHECK.due("told twice", x.rings(0, 4, 0), CourtWash.BAD);
-        CHECK.due("three", x.rings(0, 3, 0), 0);
+        CHECK.due("the last", x.sun(1, 9), 0);
+        CHECK.due("the first", x.sun(0, 0), 24);
     }
 
-    private static void rainIsForetold() {
-        CourtWash x = new CourtWash();
-        CHECK.due("no court ahead of BAD", x.rain(-1, 0), CourtWash.STATE);
-        Texts.read(x, Texts.STILL + "line 5 3 9;line 6 3 9;piece red 0 0 2;piece wool 0 0 4;piece sheet 0 0 4;piece sock 0 0 1;piece red 0 0 9;");
-        CHECK.due("nothing gets wet", x.rain(50, 0), 0);
-        CHECK.due("nothing is taken", x.rain(50, 1), CourtWash.NONE);
-        x.hang(3, 0);
+    /** PIECES of 1 yard, so many of which hang. */
+    private static CourtWash socks(int n) {
+        CourtWash x = Texts.courtOf(Texts.STILL + "line 5 3 9;line 4 3 9;" + "piece sock 0 0 1;".repeat(10));
+        for (int p = 0; p < n; p++) {
+            x.hang(p, p % 2);
+        }
+        return x;
+    }
+
+    private static void rainComesWithP() {
+        CourtWash x = socks(2);
+        for (int p = 0; p <= 100; p++) {
+            CHECK.due("rain with " + p, x.rain(p, 0), 10000 * p);
+        }
+        CHECK.due("rain with -1", x.rain(-1, 0), BAD);
+        CHECK.due("rain with 101", x.rain(101, 0), BAD);
+    }
+
+    private static void oneIsTakenAheadOfRain() {
+        CourtWash x = socks(0);
+        CHECK.due("nothing hangs, nothing gets wet", x.rain(100, 0), 0);
+        CHECK.due("nothing is taken", x.rain(100, 1), NONE);
+        x.hang(9, 0);
         CHECK.due("one is taken in time", x.rain(100, 0), 0);
-        CHECK.due("that one", x.rain(100, 1), 3);
+        CHECK.due("that one", x.rain(100, 1), 9);
+        for (int n = 1; n <= 10; n++) {
+            CHECK.due("all others get wet for sure: " + n, socks(n).rain(100, 0), 1000000 * (n - 1));
+        }
+    }
+
+    private static void theWidestAreTakenFirst() {
+        CourtWash x = Texts.courtOf(Texts.STILL + "line 5 3 9;line 6 3 9;line 7 3 9;"
+                + "piece red 0 0 2;piece wool 0 0 4;piece sheet 0 0 4;piece sock 0 0 1;piece red 0 0 9;piece red 0 0 2;");
+        x.hang(3, 0);
+        CHECK.due("the only one", x.rain(50, 1), 3);
+        x.hang(5, 0);
+        CHECK.due("the wider", x.rain(50, 1), 5);
+        CHECK.due("the other gets wet", x.rain(100, 0), 1000000);
         x.hang(0, 0);
-        x.hang(1, 0);
-        CHECK.due("the widest", x.rain(33, 1), 1);
-        CHECK.due("three", x.rain(33, 0), 2 * 330000 + 551100);
+        CHECK.due("of like ones the least", x.rain(50, 1), 0);
         x.hang(2, 1);
-        CHECK.due("of like ones the least", x.rain(33, 1), 1);
-        CHECK.due("D is cut", x.rain(33, 0), 4 * 330000 + 2 * 551100 + (1000000 - 300763));
-        CHECK.due("surely", x.rain(100, 0), 7000000);
+        x.hang(1, 0);
+        CHECK.due("of like ones the least, though it hangs later", x.rain(50, 1), 1);
+        CHECK.due("all others", x.rain(100, 0), 9000000);
+        x.hang(4, 2);
+        CHECK.due("the widest", x.rain(50, 1), 4);
+        CHECK.due("4 of 50, 4 of 75, 2 of 875 and so on", x.rain(50, 0), 4 * 500000 + 4 * 750000 + 2 * 875000 + 2 * 937500 + 968750);
+        x.take(1);
+        x.take(4);
+        CHECK.due("what is left", x.rain(50, 1), 2);
+    }
+
+    private static void staysDryByD() {
+        for (int p : new int[] {0, 1, 17, 50, 99, 100}) {
+            int staysDry = 1000000;
+            int sum = 0;
+            for (int n = 1; n <= 10; n++) {
+                sum += 1000000 - staysDry;
+                CHECK.due(n + " with " + p, socks(n).rain(p, 0), sum);
+                staysDry = staysDry * (100 - p) / 100;
+            }
+        }
+        CHECK.due("ten with 37, by hand", socks(10).rain(37, 0),
+                370000 + 603100 + 749953 + 842471 + 900757 + 937477 + 960611 + 975185 + 984367);
+    }
+
+    private static void yardsAreAdded() {
+        CourtWash x = Texts.courtOf(Texts.STILL + Texts.linesOf(8) + "piece red 0 0 9;".repeat(8));
+        Texts.hang(x, 0, 1, 2, 3, 4, 5, 6, 7);
+        CHECK.due("surely", x.rain(100, 0), 63000000);
         CHECK.due("surely not", x.rain(0, 0), 0);
-        int[][] wrong = {{-1, 0}, {101, 0}, {50, -1}, {50, 2}};
+        CHECK.due("half", x.rain(50, 0), 9 * (500000 + 750000 + 875000 + 937500 + 968750 + 984375 + 992188));
+    }
+
+    private static void rainTellsTwoThings() {
+        CourtWash x = socks(3);
+        CHECK.due("0", x.rain(10, 0), 100000 + 190000);
+        CHECK.due("1", x.rain(10, 1), 0);
+        CHECK.due("1 with 0", x.rain(0, 1), 0);
+        CHECK.due("1 with 100", x.rain(100, 1), 0);
+        CHECK.due("NONE", socks(0).rain(0, 1), NONE);
+        for (int what : new int[] {-1, 2, LEAST, MOST}) {
+            CHECK.due("what " + what, x.rain(10, what), BAD);
+        }
+    }
+
+    private static void rainIsRefused() {
+        CourtWash x = new CourtWash();
+        int[][] wrong = {{-1, 0}, {101, 0}, {50, -1}, {50, 2}, {LEAST, 0}, {MOST, 1}};
+        CHECK.due("no court", x.rain(50, 0), STATE);
+        CHECK.due("no court", x.rain(50, 1), STATE);
         for (int[] w : wrong) {
-            CHECK.due("rain " + w[0] + " " + w[1], x.rain(w[0], w[1]), CourtWash.BAD);
+            CHECK.due("no court, rain " + w[0] + " " + w[1], x.rain(w[0], w[1]), STATE);
         }
-        CourtWash y = Texts.courtOf(Texts.STILL + "line 5 3 9;" + "piece sock 0 0 1;".repeat(7));
-        int dry = 1000000;
-        int sum = 0;
-        for (int p = 0; p < 7; p++) {
-            y.hang(p, 0);
-            sum += 1000000 - dry;
-            CHECK.due("socks " + p, y.rain(17, 0), sum);
-            dry = dry * 83 / 100;
+        CourtWash y = socks(4);
+        for (int[] w : wrong) {
+            CHECK.due("rain " + w[0] + " " + w[1], y.rain(w[0], w[1]), BAD);
         }
+    }
+
+    private static CourtWash courtToKeep() {
+        CourtWash x = Texts.courtOf(Texts.STILL + "line 2 0 9;line 1 0 9;right 0 3 3 5;piece red 0 50 2;piece wool 0 20 2;");
+        x.hang(0, 0);
+        return x;
     }
 
     private static void imagesAreKept() {
-        CourtWash x = new CourtWash();
-        CHECK.due("no court", x.image(0), CourtWash.STATE);
-        CHECK.due("BAD ahead of STATE", x.image(2), CourtWash.BAD);
-        CHECK.due("-1", x.image(-1), CourtWash.BAD);
-        CHECK.due("none kept", x.restore(1), CourtWash.STATE);
-        CHECK.due("restore 2", x.restore(2), CourtWash.BAD);
-        CHECK.due("restore -1", x.restore(-1), CourtWash.BAD);
-        Texts.read(x, Texts.STILL + "line 2 0 9;line 1 0 9;piece red 0 50 2;piece wool 0 20 2;");
-        x.hang(0, 0);
-        CHECK.due("kept", x.image(0), 1);
-        CHECK.due("the other is not", x.restore(1), CourtWash.STATE);
+        CourtWash x = courtToKeep();
+        CHECK.due("image 0", x.image(0), 1);
+        CHECK.due("image 1 is not kept yet", x.restore(1), STATE);
         x.hang(1, 1);
         x.quarters(2);
-        CHECK.due("kept", x.image(1), 1);
-        Texts.read(x, Texts.STILL + "line 2 0 9;piece sock 0 50 2;");
+        CHECK.due("image 1", x.image(1), 1);
+        x.take(0);
+        x.quarters(3);
+        CHECK.due("image 0 again", x.restore(0), 1);
+        CHECK.due("nothing had gone", x.count(6) * 10 + x.count(4), 1);
+        CHECK.due("image 1 again", x.restore(1), 1);
+        CHECK.due("two had gone", x.count(6) * 10 + x.count(4), 22);
+        x.quarters(1);
+        CHECK.due("image 0 anew", x.image(0), 1);
+        x.quarters(1);
+        x.restore(0);
+        CHECK.due("three had gone", x.count(6), 3);
+        x.restore(1);
+        CHECK.due("image 1 is as it was", x.count(6), 2);
+    }
+
+    private static void keepingIsRefused() {
+        CourtWash x = new CourtWash();
+        CHECK.due("no court", x.image(0), STATE);
+        CHECK.due("no court", x.image(1), STATE);
+        for (int k : new int[] {-1, 2, LEAST, MOST}) {
+            CHECK.due("no court, image " + k, x.image(k), BAD);
+        }
+        CHECK.due("nothing was kept", x.restore(0), STATE);
+        x = courtToKeep();
+        for (int k : new int[] {-1, 2, LEAST, MOST}) {
+            CHECK.due("image " + k, x.image(k), BAD);
+        }
+        CHECK.due("nothing was kept", x.restore(1), STATE);
+    }
+
+    private static void courtsAreRestored() {
+        CourtWash x = courtToKeep();
+        x.hang(1, 1);
+        x.quarters(3);
+        x.image(1);
+        x.take(0);
+        x.quarters(9);
+        Texts.read(x, Texts.day("5") + "line 3 3 3;piece sock 4 44 4;");
+        x.hang(0, 0);
         Texts.feed(x, "day");
-        x.row(5, 0, 3);
-        CHECK.due("restored", x.restore(0), 1);
-        CHECK.due("lines", x.count(1), 2);
-        CHECK.due("pieces", x.count(3), 2);
-        CHECK.due("hung", x.count(4), 1);
-        CHECK.due("gone", x.count(6), 0);
-        CHECK.due("the tape stays", x.count(7), 3);
-        CHECK.due("rows stay", x.count(0), 1);
-        x.quarters(7);
-        x.take(0);
-        CHECK.due("restored again", x.restore(0), 1);
-        CHECK.due("as it was kept", x.line(0, 3) * 1000 + x.count(6), 1000);
-        CHECK.due("the other", x.restore(1), 1);
-        CHECK.due("wet", x.piece(1, 0), 26);
-        CHECK.due("stained", x.piece(1, 2), 1);
-        CHECK.due("gone", x.count(6), 2);
-        CHECK.due("kept anew", x.image(0), 1);
-        x.take(0);
-        CHECK.due("restored", x.restore(0), 1);
-        CHECK.due("as kept anew", x.count(4), 2);
-        CHECK.due("refusals keep it", x.restore(3), CourtWash.BAD);
-        CHECK.due("as kept anew", x.count(4), 2);
+        Texts.rowOf(x, 5, 1, 0);
+        x.ask(0, 0);
+        CHECK.due("restored", x.restore(1), 1);
+        int[] counts = {1, 2, 1, 2, 2, 1, 3, 3};
+        for (int what = 0; what < counts.length; what++) {
+            CHECK.due("count " + what, x.count(what), counts[what]);
+        }
+        int[][] pieces = {{50, 0, 0, 0, 2}, {29, 1, 1, 0, 2}};
+        for (int p = 0; p < 2; p++) {
+            for (int what = 0; what < 5; what++) {
+                CHECK.due("piece " + p + ", " + what, x.piece(p, what), pieces[p][what]);
+            }
+        }
+        int[][] lines = {{2, 0, 9, 1, 32, 1}, {1, 0, 9, 2, 0, NONE}};
+        for (int l = 0; l < 2; l++) {
+            for (int what = 0; what < 6; what++) {
+                CHECK.due("line " + l + ", " + what, x.line(l, what), lines[l][what]);
+            }
+        }
+        CHECK.due("kinds", x.kind(0) * 10 + x.kind(1), 13);
+        CHECK.due("sun", x.sun(0, 0), 0);
+        CHECK.due("the trace stays", x.trace(0), 14);
+        x.take(1);
+        x.quarters(1);
+        CHECK.due("restored again", x.restore(1), 1);
+        CHECK.due("as it was kept", x.piece(1, 0) * 10 + x.piece(1, 1), 291);
+        x.quarters(21);
+        CHECK.due("it goes on", x.quarters(1), 25);
+    }
+
+    private static void restoringIsRefused() {
+        CourtWash x = new CourtWash();
+        CHECK.due("0 without a court", x.restore(0), STATE);
+        CHECK.due("1 without a court", x.restore(1), STATE);
+        for (int k : new int[] {-1, 2, LEAST, MOST}) {
+            CHECK.due("restore " + k + " without a court", x.restore(k), BAD);
+        }
+        x = courtToKeep();
+        CHECK.due("0", x.restore(0), STATE);
+        x.image(1);
+        CHECK.due("0, though 1 was kept", x.restore(0), STATE);
+        CHECK.due("1", x.restore(1), 1);
+        for (int k : new int[] {-1, 2, LEAST, MOST}) {
+            CHECK.due("restore " + k, x.restore(k), BAD);
+        }
     }
 }

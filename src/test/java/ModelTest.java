@@ -5,7 +5,8 @@ import java.util.Random;
 /** Long runs of calls by chance (the same ones each time), held against the model: all promises together. */
 public final class ModelTest {
     private static final int RUNS = 1500;
-    private static final int CALLS = 500;
+    /** Behind so many calls no other step begins: with one's last step an object has fewer than 512. */
+    private static final int CALLS = 420;
     private static final String[] NAMES = {
         "row", "set", "copy", "drop", "court", "fault", "hang", "take", "quarters", "lay", "piece", "line", "dry",
         "plan", "whose", "sun", "rings", "rain", "image", "restore", "kind", "as", "ask", "trace", "count", "status",
@@ -65,7 +66,7 @@ public final class ModelTest {
 
     private void anyCall() {
         String name = NAMES[random.nextInt(NAMES.length)];
-        if (name.equals("plan") && chance(70) || name.equals("court") && chance(80)) {
+        if (name.equals("plan") && chance(70) || name.equals("court") && chance(80) || name.equals("lay") && isOpen()) {
             name = "piece";
         }
         long[] a = new long[5];
@@ -73,6 +74,11 @@ public final class ModelTest {
             a[i] = chance(3) ? random.nextInt() : chance(70) ? random.nextInt(6) : random.nextInt(44) - 2;
         }
         both(name, a);
+    }
+
+    /** What lay() finds where there is nothing to lay is left open by the document. */
+    private boolean isOpen() {
+        return model.call("count", 1) > 0 && model.call("count", 3) == 0;
     }
 
     private void planByChance() {
@@ -92,7 +98,9 @@ public final class ModelTest {
         for (int i = 0; i < 12; i++) {
             both("set", row, i, random.nextInt(chance(90) ? 6 : 10) - 1);
         }
-        both("lay", row, random.nextInt(3));
+        if (!isOpen()) {
+            both("lay", row, random.nextInt(3));
+        }
     }
 
     private void ringsByChance() {
