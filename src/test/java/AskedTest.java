@@ -12,6 +12,9 @@ public final class AskedTest {
         CHECK.words("A PIECE is taken as one of a KIND (0 .. 5): the PIECE's number.", AskedTest::piecesAreTakenAsKinds);
         CHECK.words("BAD; KIND: it is no such one.", AskedTest::takingIsRefused);
         CHECK.words("ASKS of PIECES, by BODIES, each of which leaves its number in THE TRACE as it begins (the first 16):", AskedTest::bodiesLeaveTheirNumbers);
+        CHECK.words("(Of an ask the BODY told for the KIND begins, else that of the nearest KIND that it is, too, else the one that is lent;",
+                AskedTest::theNearestBodyBegins);
+        CHECK.words("SIZE, MARK within others are asked of the same PIECE anew.)", AskedTest::withinOthersAllIsAskedAnew);
         CHECK.words("0 SIZE: 10 lent to all PIECES: WET. 11 of RED ones: what 10 gives, and MARK. 12 of BLACK ones: 0 less what 11 gives. 13 of WOOL ones: what 10 gives, less YARDS. 14 of SOCKS: twice what 13 gives (asked once).",
                 AskedTest::sizesAreAsked);
         CHECK.words("1 MARK: 20 lent to all PIECES: its number. 21 of RED ones: what 20 gives, and YARDS. 22 of SHEETS: what 20 gives, less SIZE. 23 of SOCKS: what 20 gives, and 10 times SIZE. 24 of BLACK ones: what 21 gives, and 1000.",
@@ -107,6 +110,28 @@ public final class AskedTest {
         bodies(x, 3, 1, 22, 20, 10);
         bodies(x, 4, 0, 14, 13, 10);
         bodies(x, 4, 1, 23, 20, 14, 13, 10);
+    }
+
+    private static void theNearestBodyBegins() {
+        CourtWash x = courtOfSorts();
+        int[] sizes = {11, 12, 13, 10, 14};
+        int[] marks = {21, 24, 20, 22, 23};
+        for (int p = 0; p < 5; p++) {
+            x.ask(p, 0);
+            CHECK.due("size of " + SORTS[p], x.trace(0), sizes[p]);
+            x.ask(p, 1);
+            CHECK.due("mark of " + SORTS[p], x.trace(0), marks[p]);
+        }
+    }
+
+    private static void withinOthersAllIsAskedAnew() {
+        CourtWash x = courtOfSorts();
+        CHECK.due("the mark in a black one's size is a black one's", x.ask(1, 0), -(41 + 1004));
+        CHECK.due("it begins fourth", x.trace(3), 24);
+        CHECK.due("the size in a sock's mark is a sock's", x.ask(4, 1), 4 + 10 * 76);
+        CHECK.due("it begins third", x.trace(2), 14);
+        CHECK.due("the size in a sheet's mark is lent", x.ask(3, 1), 3 - 43);
+        CHECK.due("it begins third", x.trace(2), 10);
     }
 
     /** Ten PIECES of one SORT, WET 0 and 99, YARDS 1 and 9. */

@@ -15,7 +15,7 @@ public final class ForetoldTest {
         CHECK.words("RAIN: with p of 100 it begins in a QUARTER, each by itself;", ForetoldTest::rainComesWithP);
         CHECK.words("in each, ahead of that, one PIECE that HANGS is taken in,", ForetoldTest::oneIsTakenAheadOfRain);
         CHECK.words("those of most YARDS first, of like ones the least number first.", ForetoldTest::theWidestAreTakenFirst);
-        CHECK.words("D of 0 is 1000000, that of k is D of (k less 1), times (100 less p), by 100;", ForetoldTest::staysDryByD);
+        CHECK.words("The one that is k-th (0 on) stays dry with D of k millionths: D of 0 is 1000000, that of k is D of (k less 1), times (100 less p), by 100;", ForetoldTest::staysDryByD);
         CHECK.words("how many YARDS get wet on the mean, in millionths: YARDS times (1000000 less D), added.", ForetoldTest::yardsAreAdded);
         CHECK.words("RAIN: YARDS in millionths (what = 0), the PIECE that is taken next (1; NONE).", ForetoldTest::rainTellsTwoThings);
         CHECK.words("BAD; STATE: no COURT (ahead of BAD).", ForetoldTest::rainIsRefused);

@@ -5,6 +5,7 @@ public final class HangingTest {
     private static final Check CHECK = new Check("HangingTest");
 
     public static void main(String[] args) {
+        CHECK.words("A PIECE HANGS on a LINE, if it was HUNG there:", HangingTest::whatWasHungHangs);
         CHECK.words("there must be room: its YARDS and those of all that HANGS there are no more than WIDE,", HangingTest::linesHaveRoom);
         CHECK.words("and no sheet HANGS beside anything.", HangingTest::sheetsHangAlone);
         CHECK.words("Nobody else may have a RIGHT to that LINE in the QUARTER that it is", HangingTest::rightsAreKept);
@@ -24,6 +25,20 @@ public final class HangingTest {
         CHECK.words("4 whose RIGHT it is in the QUARTER (bits of PEOPLE),", HangingTest::holdersAreTold);
         CHECK.words("5 the next LINE below (NONE). BAD.", HangingTest::linesBelowAreTold);
         CHECK.end();
+    }
+
+    private static void whatWasHungHangs() {
+        CourtWash x = Texts.courtOf(Texts.STILL + "line 1 0 9;line 0 0 9;piece red 0 9 1;piece red 0 9 1;");
+        CHECK.due("nothing hangs", x.count(4), 0);
+        CHECK.due("not on the first line either", x.piece(0, 1), NONE);
+        x.hang(1, 0);
+        CHECK.due("one hangs", x.count(4), 1);
+        CHECK.due("the other does not", x.piece(0, 1), NONE);
+        CHECK.due("it hangs there", x.piece(1, 1), 0);
+        CHECK.due("there it hangs", x.line(0, 3), 2);
+        CHECK.due("and nowhere else", x.line(1, 3), 0);
+        x.quarters(96);
+        CHECK.due("it hangs on", x.piece(1, 1), 0);
     }
 
     private static void linesHaveRoom() {
