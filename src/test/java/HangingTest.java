@@ -237,6 +237,13 @@ public final class HangingTest {
         laid("the end of a long row", x, -1, 1, 0);
         Texts.read(x, Texts.STILL + "line 0 0 1;");
         CHECK.due("no pieces", x.lay(3, 0), 0);
+        CourtWash ten = Texts.courtOf(Texts.STILL + Texts.linesOf(8) + "piece sock 0 0 2;".repeat(10));
+        Texts.rowOf(ten, 0, 0, 1, 2, 3, 4, 5, 6, 7, 0, 7);
+        CHECK.due("ten pieces", ten.lay(0, 0), 10);
+        laid("ten pieces", ten, 0, 1, 2, 3, 4, 5, 6, 7, 0, 7);
+        Texts.rowOf(ten, 0, -1, 1, 2, 3, 4, 5, 6, 7, 0, -1);
+        CHECK.due("all but the first and the last", ten.lay(0, 0), 8);
+        laid("all but the first and the last", ten, -1, 1, 2, 3, 4, 5, 6, 7, 0, -1);
     }
 
     private static void allIsTakenDownFirst() {
@@ -401,5 +408,17 @@ public final class HangingTest {
             CHECK.due("below " + l, x.line(l, 5), below[l]);
         }
         CHECK.due("below 7", x.line(7, 5), BAD);
+        int[][] orders = {{3, 9, 1}, {3, 1, 9}, {9, 3, 1}, {9, 1, 3}, {1, 3, 9}, {1, 9, 3}};
+        for (int[] floors : orders) {
+            StringBuilder text = new StringBuilder(Texts.STILL);
+            for (int floor : floors) {
+                text.append("line ").append(floor).append(" 2 9;");
+            }
+            CourtWash y = Texts.courtOf(text.toString());
+            for (int l = 0; l < 3; l++) {
+                int next = y.line(l, 5);
+                CHECK.due("below floor " + floors[l], next < 0 ? next : floors[next], floors[l] == 9 ? 3 : floors[l] == 3 ? 1 : NONE);
+            }
+        }
     }
 }

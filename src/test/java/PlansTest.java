@@ -58,6 +58,11 @@ public final class PlansTest {
         CHECK.due("wool in the shade never dries", x.dry(), NONE);
         x.take(3);
         CHECK.due("what is down does not count", x.dry(), 0);
+        CourtWash ten = Texts.courtOf(Texts.day("91") + Texts.linesOf(2) + "piece sock 0 0 1;" + "piece red 0 3 1;".repeat(8) + "piece red 0 7 1;");
+        for (int p = 0; p < 10; p++) {
+            ten.hang(p, p % 2);
+        }
+        CHECK.due("the last of ten pieces", ten.dry(), 7);
         CourtWash y = Texts.courtOf(Texts.day("93") + "line 1 0 9;line 0 0 9;piece black 0 40 1;piece black 0 1 1;");
         Texts.hang(y, 0, 1);
         CHECK.due("dry at times, but not together", y.dry(), 14);
@@ -174,6 +179,9 @@ public final class PlansTest {
         hung.hang(2, 0);
         plan("dry ones are dry at once", hung, 1, 0, 1);
         plan("away from what drips", hung, 2, 5, 2, 2);
+        CourtWash wide = Texts.courtOf(Texts.day("70") + Texts.linesOf(8) + "piece red 0 8 1;piece red 0 8 9;");
+        plan("the last of eight lines", wide, 1, 4, 7);
+        plan("it is wanted by two", wide, 2, NONE);
         CourtWash drip = Texts.courtOf(Texts.day("92") + "line 5 0 9;line 1 0 9;line 1 1 4;piece black 0 40 5;piece black 0 38 5;");
         plan("below one another, as there is no other way", drip, 2, 25, 0, 1);
         CourtWash column = Texts.courtOf(Texts.day("92") + "line 5 0 9;line 1 0 9;line 1 1 5;piece black 0 40 5;piece black 0 38 5;");

@@ -121,6 +121,29 @@ public final class QuartersTest {
         x.hang(0, 5);
         x.quarters(1);
         wets("five floors below", x, 99, 0, 3, 3, 0, 3, 0);
+        allLinesDrip();
+    }
+
+    /** Line i is on floor i: each drips on the one before it, the last on none. */
+    private static void allLinesDrip() {
+        CourtWash x = Texts.courtOf(Texts.STILL + Texts.linesOf(8) + "piece wool 0 50 1;" + "piece red 0 50 1;".repeat(6) + "piece wool 0 50 1;"
+                + "piece sock 0 0 1;piece sheet 0 0 1;");
+        Texts.hang(x, 0, 1, 2, 3, 4, 5, 6, 7, 0);
+        x.quarters(1);
+        wets("eight lines", x, 53, 53, 53, 53, 53, 53, 53, 50, 3, 0);
+        stains("eight lines", x, 1, 0, 0, 0, 0, 0, 0, 0, 1, 0);
+        x.take(0);
+        x.take(8);
+        x.take(1);
+        x.hang(9, 0);
+        x.quarters(1);
+        wets("what fell before falls no more", x, 53, 53, 56, 56, 56, 56, 56, 50, 3, 0);
+        stains("what ran before runs no more", x, 1, 0, 0, 0, 0, 0, 0, 0, 1, 0);
+        x.take(7);
+        x.hang(7, 1);
+        x.quarters(1);
+        wets("the last of ten pieces", x, 53, 53, 59, 59, 59, 59, 56, 53, 3, 3);
+        stains("the last of ten pieces is wet, but clean", x, 1, 0, 0, 0, 0, 0, 0, 1, 1, 0);
     }
 
     private static void dripsWet() {
