@@ -494,13 +494,20 @@ public final class CourtWash {
             draft.putUp(p, line);
             triedLines[p] = line;
             int time = timeUntilDry(0, p, bestTime);
-            if (time < bestTime && p == n - 1) {
-                bestTime = time;
-                System.arraycopy(triedLines, 0, bestLines, 0, n);
-            } else if (time < bestTime) {
-                planPiece(p + 1, n);
+            if (time < bestTime) {
+                keepOrGoOn(p, n, time);
             }
             draft.takeDown(p);
+        }
+    }
+
+    /** PIECES 0 to p need less than the best: behind the last one that is the best now. */
+    private void keepOrGoOn(int p, int n, int time) {
+        if (p < n - 1) {
+            planPiece(p + 1, n);
+        } else {
+            bestTime = time;
+            System.arraycopy(triedLines, 0, bestLines, 0, n);
         }
     }
 
